@@ -204,6 +204,7 @@ final class PromisesTest {
         due("undo behind lay", boots.undo(), NO);
         due("back behind lay", boots.back(), NO);
         due("washed behind lay", boots.washed(), 2);
+        due("good ahead of another lay", boots.good(0), 1);
         put(boots, "g3,9;");
         due("what is laid while another text is written", boots.count(0), 2);
         due("lay of another text", boots.lay(), 1);
@@ -360,7 +361,10 @@ final class PromisesTest {
         }
         due("the 9th last stays", boots.guest(0, 1), 0);
         due("undo of the 9th last", boots.undo(), NO);
-        due("good is as undone", boots.good(0), 1);
+        boots.leave(1);
+        goodOrder("one left, ahead of undo", boots, 0);
+        due("undo a leave again", boots.undo(), 0);
+        goodOrder("as undone", boots, 0, 1);
     }
 
     private static void promise12Good() {
@@ -569,10 +573,15 @@ final class PromisesTest {
         due("forget nothing", boots.forget(), 0);
         boots.woken(0, 1);
         boots.woken(1, 0);
+        due("washed ahead of forget", boots.washed(), 0);
         boots.leave(0);
+        due("washed, with one who left", boots.washed(), 1);
         due("forget, with one who left", boots.forget(), 2);
         due("forget again", boots.forget(), 0);
         boots.leave(0);
+        boots.woken(0, 1);
+        due("washed ahead of forget again", boots.washed(), 1);
+        due("forget one", boots.forget(), 1);
         due("washed when all is forgotten", boots.washed(), 2);
         due("woken behind forget", boots.woken(1, 0), 1);
         due("washed of what was told behind forget", boots.washed(), 1);
@@ -680,7 +689,10 @@ final class PromisesTest {
 
     private static void promise25Dawn() {
         // by z = 0: x is 1, DRAW 0 on the first dawn; x is 6152, DRAW 5185 on the second
-        BootsAtDawn boots = laid("g0,1;g0,4;");
+        BootsAtDawn boots = new BootsAtDawn();
+        due("40 dawns of the first slate", boots.dawn(5, 40, 0), 40);
+        due("40 dawns of the first slate: when", boots.dawn(5, 40, 1), 716);
+        boots = laid("g0,1;g0,4;");
         due("the first without guest 0", boots.dawn(0, 1, 1), 5);
         due("the second without guest 1", boots.dawn(0, 2, 1), 7);
         due("both are good", boots.dawn(0, 2, 0), 2);
@@ -737,7 +749,9 @@ final class PromisesTest {
         due("undo behind back", boots.undo(), NO);
         due("good behind back", boots.good(0), 2);
         boots.leave(1);
+        due("good ahead of back", boots.good(0), 6);
         due("back to the first", boots.back(), 0);
+        due("good behind back to the first", boots.good(0), 3);
         counts("as kept first", boots, 3, 3, 2, 1, 1, 0, 1, 0, 0);
         due("floor as kept first", boots.guest(0, 1), 4);
         due("another floor as kept first", boots.guest(2, 1), 0);
