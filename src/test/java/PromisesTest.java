@@ -748,8 +748,8 @@ final class PromisesTest {
         due("floor as kept last", boots.guest(0, 1), 9);
         due("undo behind back", boots.undo(), NO);
         due("good behind back", boots.good(0), 2);
-        boots.leave(1);
-        due("good ahead of back", boots.good(0), 6);
+        boots.leave(2);
+        due("good ahead of back", boots.good(0), 1);
         due("back to the first", boots.back(), 0);
         due("good behind back to the first", boots.good(0), 3);
         counts("as kept first", boots, 3, 3, 2, 1, 1, 0, 1, 0, 0);
