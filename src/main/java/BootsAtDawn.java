@@ -259,7 +259,7 @@ public final class BootsAtDawn {
         }
         int lowest = 0;
         int least = tonight.laterEnd(lowest);
-        for (int first = 1; first <= tonight.here; first++) {
+        for (int first = 1; first < 1 << MOST_GUESTS; first++) {
             boolean allHere = (first & ~tonight.here) == 0;
             int end = tonight.laterEnd(first);
             if (allHere && end < least) {

@@ -4,12 +4,15 @@ import java.util.Random;
 final class ModelTest {
     private static final int RUNS = 240;
     private static final int CALLS = 200;
+    // of more than 512 calls nothing is promised, and a text takes at most 93 of them
+    private static final int LAST_CALL = 512 - 93;
     private static final Check CHECK = new Check("ModelTest");
 
     private final Random random;
     private final BootsAtDawn boots = new BootsAtDawn();
     private final Model model = new Model();
     private final StringBuilder told = new StringBuilder();
+    private int called;
 
     private ModelTest(int seed) {
         random = new Random(seed);
@@ -21,7 +24,7 @@ final class ModelTest {
             if (seed % 8 != 0) {
                 run.layAText();
             }
-            for (int call = 0; call < CALLS; call++) {
+            for (int call = 0; call < CALLS && run.called < LAST_CALL; call++) {
                 run.callOne();
             }
         }
@@ -42,6 +45,7 @@ final class ModelTest {
     }
 
     private void due(String call, int got, int want) {
+        called++;
         told.append(call).append(' ');
         CHECK.due(told.length() > 600 && got == want ? call : told.toString(), got, want);
     }
@@ -52,6 +56,7 @@ final class ModelTest {
         for (int i = 0; i < text.length(); i++) {
             int letter = text.charAt(i);
             CHECK.due("write(" + letter + ")", boots.write(letter), model.write(letter));
+            called++;
         }
         told.append('"').append(text).append("\" ");
         due("fault()", boots.fault(), model.fault());

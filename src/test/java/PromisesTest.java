@@ -1,7 +1,7 @@
 /** Each promise of the document by examples that were worked out by hand: ordinary, edges, wrong inputs. */
 final class PromisesTest {
-    private static final int BAD = -1, NO = -2, FULL = -3, NONE = -4;
-    private static final int LEAST = Integer.MIN_VALUE, MOST = Integer.MAX_VALUE;
+    private static final int BAD = Hotel.BAD, NO = Hotel.NO, FULL = Hotel.FULL, NONE = Hotel.NONE;
+    private static final int LEAST = Hotel.LEAST, MOST = Hotel.MOST;
     private static final Check CHECK = new Check("PromisesTest");
 
     public static void main(String[] args) {
@@ -41,20 +41,6 @@ final class PromisesTest {
 
     private static void due(String what, int got, int want) {
         CHECK.due(what, got, want);
-    }
-
-    private static void put(BootsAtDawn boots, String text) {
-        boots.wipe();
-        for (int i = 0; i < text.length(); i++) {
-            boots.write(text.charAt(i));
-        }
-    }
-
-    private static BootsAtDawn laid(String text) {
-        BootsAtDawn boots = new BootsAtDawn();
-        put(boots, text);
-        CHECK.holds("lay of " + text, boots.lay() > 0);
-        return boots;
     }
 
     private static void counts(String what, BootsAtDawn boots, int... want) {
@@ -122,7 +108,7 @@ final class PromisesTest {
 
     private static void promise3Wipe() {
         BootsAtDawn boots = new BootsAtDawn();
-        put(boots, "g0,1;x");
+        Hotel.put(boots, "g0,1;x");
         due("fault ahead of wipe", boots.fault(), 5);
         due("wipe", boots.wipe(), 6);
         due("wipe again", boots.wipe(), 0);
@@ -133,7 +119,7 @@ final class PromisesTest {
 
     private static void fault(String text, int want) {
         BootsAtDawn boots = new BootsAtDawn();
-        put(boots, text);
+        Hotel.put(boots, text);
         due("fault of " + text, boots.fault(), want);
         due("letters behind fault of " + text, boots.count(9), text.length());
         due("guests behind fault of " + text, boots.count(0), 5);
@@ -184,13 +170,13 @@ final class PromisesTest {
         }
         fault(full.toString(), NONE);
         BootsAtDawn boots = new BootsAtDawn();
-        put(boots, full.toString().substring(0, 198) + "s1");
+        Hotel.put(boots, full.toString().substring(0, 198) + "s1");
         due("fault of an item cut off by the end", boots.fault(), 197);
     }
 
     private static void promise5Lay() {
         BootsAtDawn boots = new BootsAtDawn();
-        put(boots, "s3;g1,4;g2,5;b0,1;s7;");
+        Hotel.put(boots, "s3;g1,4;g2,5;b0,1;s7;");
         due("lay", boots.lay(), 2);
         counts("laid", boots, 2, 2, 1, 1, 0, 7, 0, 0, 0, 21);
         boots.leave(0);
@@ -205,7 +191,7 @@ final class PromisesTest {
         due("back behind lay", boots.back(), NO);
         due("washed behind lay", boots.washed(), 2);
         due("good ahead of another lay", boots.good(0), 1);
-        put(boots, "g3,9;");
+        Hotel.put(boots, "g3,9;");
         due("what is laid while another text is written", boots.count(0), 2);
         due("lay of another text", boots.lay(), 1);
         counts("laid another text", boots, 1, 1, 0, 0, 0, 0, 0, 0, 0, 5);
@@ -221,7 +207,7 @@ final class PromisesTest {
         boots.keep();
         String[] refused = {"", "s5;", "g0,0;g1,1;x", "g0,0;b0,0;", "g0,0"};
         for (String text : refused) {
-            put(boots, text);
+            Hotel.put(boots, text);
             due("lay of " + text, boots.lay(), NO);
             counts("as before lay of " + text, boots, 5, 4, 6, 4, 0, 2, 1, 1, 1, text.length());
             due("floor as before lay of " + text, boots.guest(3, 1), 5);
@@ -230,7 +216,7 @@ final class PromisesTest {
     }
 
     private static void promise6Guest() {
-        BootsAtDawn boots = laid("g0,9;g1,9;g2,9;g3,9;g3,0;");
+        BootsAtDawn boots = Hotel.laid("g0,9;g1,9;g2,9;g3,9;g3,0;");
         int[] kinds = {0, 1, 2, 3, 3};
         int[] wakings = {1, 3, 0, 11, 2};
         for (int g = 0; g < 5; g++) {
@@ -251,7 +237,7 @@ final class PromisesTest {
     }
 
     private static void promise7Wish() {
-        BootsAtDawn boots = laid("g0,0;g0,1;g0,2;b2,1;a1,0;f2;n0,99;u1,0;");
+        BootsAtDawn boots = Hotel.laid("g0,0;g0,1;g0,2;b2,1;a1,0;f2;n0,99;u1,0;");
         int[][] want = {{0, 2, 1, 1}, {1, 1, 0, 1}, {2, 2, NONE, 1}, {3, 0, 99, 1}, {4, 1, 0, 1}};
         for (int w = 0; w < want.length; w++) {
             for (int what = 0; what < 4; what++) {
@@ -280,7 +266,7 @@ final class PromisesTest {
     }
 
     private static void promise8Leave() {
-        BootsAtDawn boots = laid("g0,0;g0,1;");
+        BootsAtDawn boots = Hotel.laid("g0,0;g0,1;");
         due("leave", boots.leave(1), 0);
         due("here", boots.count(1), 1);
         due("guests", boots.count(0), 2);
@@ -295,7 +281,7 @@ final class PromisesTest {
     }
 
     private static void promise9Move() {
-        BootsAtDawn boots = laid("g0,4;g0,1;");
+        BootsAtDawn boots = Hotel.laid("g0,4;g0,1;");
         due("move", boots.move(0, 9), 4);
         due("move back", boots.move(0, 0), 9);
         due("move to where he is", boots.move(0, 0), NO);
@@ -312,7 +298,7 @@ final class PromisesTest {
     }
 
     private static void promise10Strike() {
-        BootsAtDawn boots = laid("g0,0;g0,1;b0,1;b1,0;f0;");
+        BootsAtDawn boots = Hotel.laid("g0,0;g0,1;b0,1;b1,0;f0;");
         due("written already", boots.strike(0, false), NO);
         due("strike", boots.strike(0, true), 1);
         due("struck out already", boots.strike(0, true), NO);
@@ -333,7 +319,7 @@ final class PromisesTest {
     }
 
     private static void promise11Undo() {
-        BootsAtDawn boots = laid("g0,4;g0,1;b0,1;");
+        BootsAtDawn boots = Hotel.laid("g0,4;g0,1;b0,1;");
         boots.leave(0);
         boots.move(1, 7);
         boots.strike(0, true);
@@ -368,26 +354,26 @@ final class PromisesTest {
     }
 
     private static void promise12Good() {
-        BootsAtDawn boots = laid("g0,1;g0,2;g0,3;");
+        BootsAtDawn boots = Hotel.laid("g0,1;g0,2;g0,3;");
         due("good of no wishes", boots.good(0), 6);
         goodOrder("no wishes", boots, 0, 1, 2);
-        boots = laid("g0,0;g0,0;g0,0;a2,0;");
+        boots = Hotel.laid("g0,0;g0,0;g0,0;a2,0;");
         due("good of just after", boots.good(0), 2);
         goodOrder("just after", boots, 0, 2, 1);
-        boots = laid("g0,0;g0,0;g0,0;f2;");
+        boots = Hotel.laid("g0,0;g0,0;g0,0;f2;");
         due("good of first", boots.good(0), 2);
         goodOrder("first", boots, 2, 0, 1);
-        boots = laid("g0,0;g0,0;g0,0;g0,0;g0,0;g0,0;b5,0;");
+        boots = Hotel.laid("g0,0;g0,0;g0,0;g0,0;g0,0;g0,0;b5,0;");
         due("good of before", boots.good(0), 360);
         goodOrder("before", boots, 1, 2, 3, 4, 5, 0);
-        boots = laid("g0,1;g0,2;u0,1;");
+        boots = Hotel.laid("g0,1;g0,2;u0,1;");
         due("good of not later", boots.good(0), 1);
         boots.move(0, 2);
         due("good of not later, on a higher floor", boots.good(0), 0);
         goodOrder("no good one", boots);
         boots.strike(0, true);
         due("good of a wish struck out", boots.good(0), 2);
-        boots = laid("g0,1;g0,2;n0,99;n1,99;u1,99;s99;");
+        boots = Hotel.laid("g0,1;g0,2;n0,99;n1,99;u1,99;s99;");
         due("good of not sooner", boots.good(0), 0);
         boots.leave(0);
         boots.move(1, 0);
@@ -402,14 +388,14 @@ final class PromisesTest {
     }
 
     private static void promise13Soonest() {
-        BootsAtDawn boots = laid("g0,3;g0,1;");
+        BootsAtDawn boots = Hotel.laid("g0,3;g0,1;");
         due("soonest", boots.soonest(0), 5);
         soonestOrder("from below", boots, 1, 0);
         goodOrder("from below", boots, 0, 1);
-        boots = laid("g0,1;g0,1;s10;");
+        boots = Hotel.laid("g0,1;g0,1;s10;");
         due("soonest of several", boots.soonest(0), 13);
         soonestOrder("the first of several", boots, 0, 1);
-        boots = laid("g3,4;g1,1;g2,9;");
+        boots = Hotel.laid("g3,4;g1,1;g2,9;");
         due("soonest by kinds", boots.soonest(0), 9 + 6 + 3);
         soonestOrder("by kinds", boots, 1, 0, 2);
         boots.leave(0);
@@ -417,7 +403,7 @@ final class PromisesTest {
         boots.leave(2);
         due("soonest of nobody", boots.soonest(0), 0);
         soonestOrder("nobody", boots);
-        boots = laid("g0,1;g0,2;b0,1;b1,0;s5;");
+        boots = Hotel.laid("g0,1;g0,2;b0,1;b1,0;s5;");
         due("soonest of no good one", boots.soonest(0), NONE);
         soonestOrder("no good one", boots);
         boots.leave(0);
@@ -431,32 +417,32 @@ final class PromisesTest {
     }
 
     private static void promise13SoonestWaits() {
-        BootsAtDawn boots = laid("g0,1;g0,2;n0,10;");
+        BootsAtDawn boots = Hotel.laid("g0,1;g0,2;n0,10;");
         due("soonest with a wait", boots.soonest(0), 11);
         soonestOrder("with a wait", boots, 1, 0);
-        boots = laid("g0,0;n0,5;n0,9;");
+        boots = Hotel.laid("g0,0;n0,5;n0,9;");
         due("the later of two waits", boots.soonest(0), 10);
         boots.strike(1, true);
         due("the wait that stands", boots.soonest(0), 6);
-        boots = laid("g0,0;n0,5;s7;");
+        boots = Hotel.laid("g0,0;n0,5;s7;");
         due("no wait when it is later", boots.soonest(0), 8);
-        boots = laid("g0,2;n0,30;u0,30;");
+        boots = Hotel.laid("g0,2;n0,30;u0,30;");
         due("in time behind a wait", boots.soonest(0), 31);
     }
 
     private static void promise14Most() {
-        BootsAtDawn boots = laid("g0,0;g0,0;b0,1;b1,0;b0,1;");
+        BootsAtDawn boots = Hotel.laid("g0,0;g0,0;b0,1;b1,0;b0,1;");
         due("most", boots.most(0), 2);
         due("which", boots.most(1), 5);
         boots.strike(2, true);
         due("most of two", boots.most(0), 1);
         due("the lowest of two", boots.most(1), 1);
-        boots = laid("g0,0;g0,0;b1,0;b0,1;");
+        boots = Hotel.laid("g0,0;g0,0;b1,0;b0,1;");
         due("the lowest, not the first round's", boots.most(1), 1);
         boots.leave(0);
         due("most when none stands", boots.most(0), 0);
         due("which when none stands", boots.most(1), 0);
-        boots = laid("g0,0;n0,9;u0,5;f0;");
+        boots = Hotel.laid("g0,0;n0,9;u0,5;f0;");
         due("most with a wait", boots.most(0), 2);
         due("which with a wait", boots.most(1), 5);
         boots.leave(0);
@@ -468,26 +454,26 @@ final class PromisesTest {
     }
 
     private static void promise15Core() {
-        BootsAtDawn boots = laid("g0,0;g0,0;g0,0;b0,1;b1,2;b2,0;b1,0;");
+        BootsAtDawn boots = Hotel.laid("g0,0;g0,0;g0,0;b0,1;b1,2;b2,0;b1,0;");
         due("the fewest, not the lowest", boots.core(), 9);
         boots.strike(3, true);
         due("a ring of three", boots.core(), 7);
         boots.leave(2);
         due("a good one", boots.core(), NONE);
-        boots = laid("g0,0;g0,0;f1;b0,1;f0;b0,1;");
+        boots = Hotel.laid("g0,0;g0,0;f1;b0,1;f0;b0,1;");
         due("the lowest of several", boots.core(), 3);
-        boots = laid("g0,0;n0,9;u0,5;");
+        boots = Hotel.laid("g0,0;n0,9;u0,5;");
         due("a wait that stands counts, though it is none of these", boots.core(), 2);
         boots.strike(0, true);
         due("no wait", boots.core(), NONE);
         boots.leave(0);
         due("core of nobody", boots.core(), NONE);
-        boots = laid("g0,0;g0,0;g0,0;f0;f0;f0;f0;f0;f0;f0;a2,1;a0,2;");
+        boots = Hotel.laid("g0,0;g0,0;g0,0;f0;f0;f0;f0;f0;f0;f0;a2,1;a0,2;");
         due("the highest wishes", boots.core(), 257);
     }
 
     private static void promise16Place() {
-        BootsAtDawn boots = laid("g0,0;g0,0;g0,0;a2,0;");
+        BootsAtDawn boots = Hotel.laid("g0,0;g0,0;g0,0;a2,0;");
         int[][] want = {{1, 2}, {1, 3}, {2, 3}};
         for (int g = 0; g < 3; g++) {
             due("earliest of " + g, boots.place(g, 0), want[g][0]);
@@ -496,7 +482,7 @@ final class PromisesTest {
         boots.leave(2);
         due("place of one who left", boots.place(2, 0), NONE);
         due("latest when one left", boots.place(0, 1), 2);
-        boots = laid("g0,0;g0,0;f0;f1;");
+        boots = Hotel.laid("g0,0;g0,0;f0;f1;");
         due("place when no round is good", boots.place(0, 0), NONE);
         int[][] wrong = {{-1, 0}, {2, 0}, {0, -1}, {0, 2}, {LEAST, 0}, {MOST, 0}, {0, LEAST}, {0, MOST}};
         for (int[] call : wrong) {
@@ -507,7 +493,7 @@ final class PromisesTest {
     }
 
     private static void promise17Ahead() {
-        BootsAtDawn boots = laid("g0,0;g0,0;g0,0;b0,1;b1,2;");
+        BootsAtDawn boots = Hotel.laid("g0,0;g0,0;g0,0;b0,1;b1,2;");
         due("ahead", boots.ahead(0, 2), 1);
         due("behind", boots.ahead(2, 0), 0);
         boots.strike(1, true);
@@ -516,7 +502,7 @@ final class PromisesTest {
         boots.leave(1);
         due("ahead of one who left", boots.ahead(0, 1), NONE);
         due("one who left ahead", boots.ahead(1, 0), NONE);
-        boots = laid("g0,0;g0,0;g0,0;f0;f1;");
+        boots = Hotel.laid("g0,0;g0,0;g0,0;f0;f1;");
         due("ahead when no round is good", boots.ahead(0, 2), NONE);
         int[][] wrong = {{0, 0}, {2, 2}, {-1, 0}, {3, 0}, {0, -1}, {0, 3}, {LEAST, 0}, {0, MOST}};
         for (int[] call : wrong) {
@@ -527,7 +513,7 @@ final class PromisesTest {
     }
 
     private static void promise18Hangs() {
-        BootsAtDawn boots = laid("g0,0;g0,0;g0,0;g0,0;g0,0;g0,0;b0,1;a2,1;b2,3;a4,3;b4,5;");
+        BootsAtDawn boots = Hotel.laid("g0,0;g0,0;g0,0;g0,0;g0,0;g0,0;b0,1;a2,1;b2,3;a4,3;b4,5;");
         int[] chain = {62, 60, 56, 48, 32, 0};
         for (int g = 0; g < 6; g++) {
             due("a chain: hangs(" + g + ")", boots.hangs(g), chain[g]);
@@ -539,9 +525,9 @@ final class PromisesTest {
         boots.leave(2);
         boots.strike(1, true);
         due("a wish struck out", boots.hangs(0), 2);
-        boots = laid("g0,0;g0,0;g0,0;b0,1;b1,2;b2,0;");
+        boots = Hotel.laid("g0,0;g0,0;g0,0;b0,1;b1,2;b2,0;");
         due("a ring: the others", boots.hangs(1), 5);
-        boots = laid("g0,0;g0,0;g0,0;f0;n1,3;u2,5;");
+        boots = Hotel.laid("g0,0;g0,0;g0,0;f0;n1,3;u2,5;");
         due("first, not sooner, not later", boots.hangs(0) + boots.hangs(1) + boots.hangs(2), 0);
         int[] wrong = {-1, 3, LEAST, MOST};
         for (int g : wrong) {
@@ -550,7 +536,7 @@ final class PromisesTest {
     }
 
     private static void promise19Woken() {
-        BootsAtDawn boots = laid("g0,0;g0,0;g0,0;");
+        BootsAtDawn boots = Hotel.laid("g0,0;g0,0;g0,0;");
         due("woken", boots.woken(0, 1), 1);
         due("woken alike again", boots.woken(0, 1), 2);
         boots.leave(2);
@@ -569,7 +555,7 @@ final class PromisesTest {
     }
 
     private static void promise20Forget() {
-        BootsAtDawn boots = laid("g0,0;g0,0;");
+        BootsAtDawn boots = Hotel.laid("g0,0;g0,0;");
         due("forget nothing", boots.forget(), 0);
         boots.woken(0, 1);
         boots.woken(1, 0);
@@ -588,7 +574,7 @@ final class PromisesTest {
     }
 
     private static void promise21Slates() {
-        BootsAtDawn boots = laid("g0,0;g0,0;g0,0;");
+        BootsAtDawn boots = Hotel.laid("g0,0;g0,0;g0,0;");
         due("all twos", boots.slates(0), 6);
         due("the first two", boots.slates(1), 1);
         boots.woken(1, 0);
@@ -602,7 +588,7 @@ final class PromisesTest {
         due("first, one left", boots.slates(1), 20);
         boots.leave(1);
         due("comes again, and counts again", boots.slates(0), 4);
-        boots = laid("g0,0;g0,0;g0,0;b0,1;");
+        boots = Hotel.laid("g0,0;g0,0;g0,0;b0,1;");
         due("twos by the slate", boots.slates(0), 5);
         boots.woken(1, 0);
         due("twos against the slate", boots.slates(0), 0);
@@ -618,7 +604,7 @@ final class PromisesTest {
     }
 
     private static void promise22Washed() {
-        BootsAtDawn boots = laid("g0,0;g0,0;g0,0;g0,0;b0,1;f0;f1;");
+        BootsAtDawn boots = Hotel.laid("g0,0;g0,0;g0,0;g0,0;b0,1;f0;f1;");
         due("all rounds, good or not", boots.washed(), 24);
         boots.woken(1, 0);
         due("one told", boots.washed(), 12);
@@ -636,7 +622,7 @@ final class PromisesTest {
     }
 
     private static void promise23Two() {
-        BootsAtDawn boots = laid("g0,1;g0,9;s3;b1,0;");
+        BootsAtDawn boots = Hotel.laid("g0,1;g0,9;s3;b1,0;");
         due("when", boots.two(0), 13);
         due("which, the lowest", boots.two(1), 1);
         boots.leave(1);
@@ -645,7 +631,7 @@ final class PromisesTest {
         boots.leave(0);
         due("nobody", boots.two(0), 3);
         due("nobody, which", boots.two(1), 0);
-        boots = laid("g1,2;g3,2;g1,2;g2,7;n0,50;");
+        boots = Hotel.laid("g1,2;g3,2;g1,2;g2,7;n0,50;");
         due("by waking and floor", boots.two(0), 10);
         due("by waking and floor, which", boots.two(1), 3);
         boots.leave(2);
@@ -667,7 +653,7 @@ final class PromisesTest {
     }
 
     private static void promise24Overslept() {
-        BootsAtDawn boots = laid("g0,0;g0,0;g0,0;g0,0;g0,0;g0,0;b0,1;b1,2;b2,3;b3,4;a5,4;");
+        BootsAtDawn boots = Hotel.laid("g0,0;g0,0;g0,0;g0,0;g0,0;g0,0;b0,1;b1,2;b2,3;b3,4;a5,4;");
         chance("hangs on nobody", boots, 0, 1, 9, 10);
         chance("hangs on five", boots, 5, 1, 531441, 1000000);
         chance("lowest terms", boots, 1, 2, 16, 25);
@@ -679,7 +665,7 @@ final class PromisesTest {
         chance("a chain cut", boots, 5, 3, 343, 1000);
         chance("a chain cut", boots, 1, 3, 49, 100);
         due("one who left", boots.overslept(2, 3, 0), NO);
-        chance("a ring", laid("g0,0;g0,0;g0,0;b0,1;b1,2;b2,0;"), 1, 8, 1, 125);
+        chance("a ring", Hotel.laid("g0,0;g0,0;g0,0;b0,1;b1,2;b2,0;"), 1, 8, 1, 125);
         int[][] wrong = {{-1, 0, 0}, {6, 0, 0}, {0, -1, 0}, {0, 11, 0}, {0, 0, -1}, {0, 0, 2}, {2, 11, 0}, {2, 3, 2}, {LEAST, 0, 0}, {0, MOST, 0}};
         for (int[] call : wrong) {
             String told = "overslept(" + call[0] + ", " + call[1] + ", " + call[2] + ")";
@@ -692,7 +678,7 @@ final class PromisesTest {
         BootsAtDawn boots = new BootsAtDawn();
         due("40 dawns of the first slate", boots.dawn(5, 40, 0), 40);
         due("40 dawns of the first slate: when", boots.dawn(5, 40, 1), 716);
-        boots = laid("g0,1;g0,4;");
+        boots = Hotel.laid("g0,1;g0,4;");
         due("the first without guest 0", boots.dawn(0, 1, 1), 5);
         due("the second without guest 1", boots.dawn(0, 2, 1), 7);
         due("both are good", boots.dawn(0, 2, 0), 2);
@@ -703,13 +689,13 @@ final class PromisesTest {
         due("the other one, too, is away", boots.dawn(0, 2, 1), 5);
         due("a dawn of nobody is good", boots.dawn(0, 2, 0), 2);
         due("dawns leave all as it is", boots.count(1), 1);
-        boots = laid("g0,1;g0,4;u1,3;");
+        boots = Hotel.laid("g0,1;g0,4;u1,3;");
         due("good ones alone: how many", boots.dawn(0, 2, 0), 1);
         due("good ones alone: when", boots.dawn(0, 2, 1), 2);
         due("none good", boots.dawn(0, 1, 0), 0);
         due("none good: when", boots.dawn(0, 1, 1), 0);
         due("good behind dawns", boots.good(0), 0);
-        due("40 dawns of the highest z", laid("g0,0;").dawn(9999, 40, 0), 40);
+        due("40 dawns of the highest z", Hotel.laid("g0,0;").dawn(9999, 40, 0), 40);
         int[][] wrong = {{-1, 1, 0}, {10000, 1, 0}, {0, 0, 0}, {0, 41, 0}, {0, 1, -1}, {0, 1, 2}, {LEAST, 1, 0}, {0, MOST, 0}, {MOST, 1, 1}};
         for (int[] call : wrong) {
             due("dawn(" + call[0] + ", " + call[1] + ", " + call[2] + ")", boots.dawn(call[0], call[1], call[2]), BAD);
@@ -717,7 +703,7 @@ final class PromisesTest {
     }
 
     private static void promise26Keep() {
-        BootsAtDawn boots = laid("g0,0;g0,1;b0,1;");
+        BootsAtDawn boots = Hotel.laid("g0,0;g0,1;b0,1;");
         boots.leave(0);
         due("keep", boots.keep(), 1);
         due("keep two", boots.keep(), 2);
@@ -731,7 +717,7 @@ final class PromisesTest {
     }
 
     private static void promise27Back() {
-        BootsAtDawn boots = laid("g0,4;g0,1;g0,9;b0,1;f0;");
+        BootsAtDawn boots = Hotel.laid("g0,4;g0,1;g0,9;b0,1;f0;");
         due("back to nothing", boots.back(), NO);
         boots.strike(1, true);
         boots.move(2, 0);
@@ -760,7 +746,7 @@ final class PromisesTest {
     }
 
     private static void promise28Count() {
-        BootsAtDawn boots = laid("g0,4;g0,1;g0,9;b0,1;f0;n2,7;s44;");
+        BootsAtDawn boots = Hotel.laid("g0,4;g0,1;g0,9;b0,1;f0;n2,7;s44;");
         boots.leave(1);
         boots.strike(1, true);
         boots.woken(0, 1);

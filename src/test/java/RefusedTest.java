@@ -3,7 +3,7 @@ import java.util.List;
 import java.util.function.Supplier;
 import java.util.function.ToIntFunction;
 
-/** A call that is refused answers as told and changes nothing, and no question changes anything. */
+/** A call that is refused answers as told and changes nothing. */
 final class RefusedTest {
     private static final int BAD = Hotel.BAD, NO = Hotel.NO, FULL = Hotel.FULL, NONE = Hotel.NONE;
     private static final Check CHECK = new Check("RefusedTest");
@@ -40,9 +40,6 @@ final class RefusedTest {
             CHECK.due(scene + ": " + call.name, call.call.applyAsInt(boots), call.due);
             CHECK.holds(scene + ": nothing changes by " + call.name, Hotel.lookBehind(boots).equals(untouched));
         }
-        BootsAtDawn boots = begin.get();
-        Hotel.look(boots);
-        CHECK.holds(scene + ": nothing changes by questions", Hotel.lookBehind(boots).equals(untouched));
     }
 
     /** What is BAD whatever the slate, and of this many guests and wishes. */
