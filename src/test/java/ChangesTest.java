@@ -22,6 +22,7 @@ final class ChangesTest {
         backLeavesWokenAndTextAlone();
         keepLeavesAllAlone();
         countsOfNothing();
+        the512thCallAnswers();
         CHECK.end();
     }
 
@@ -222,5 +223,17 @@ final class ChangesTest {
         for (int what = 0; what < counts.length; what++) {
             CHECK.due("count(" + what + ") of nothing", boots.count(what), counts[what]);
         }
+    }
+
+    /** "An object is used for at most 512 calls after it has been made" */
+    private static void the512thCallAnswers() {
+        BootsAtDawn boots = new BootsAtDawn();
+        for (int call = 1; call <= 508; call++) {
+            CHECK.due("leave, call " + call, boots.leave(0), call % 2 == 1 ? 0 : 1);
+        }
+        CHECK.due("count, call 509", boots.count(7), 8);
+        CHECK.due("undo, call 510", boots.undo(), 7);
+        CHECK.due("good, call 511", boots.good(0), 4);
+        CHECK.due("soonest, call 512", boots.soonest(0), 24);
     }
 }
